@@ -260,10 +260,22 @@ public final class BitArithmetic {
             }
             switch (plain) {
                 case 0x6d: return signedA / signedB;
-                case 0x6e: return Long.divideUnsigned(unsignedA, unsignedB);
+                case 0x6e: return unsignedQuotient(unsignedA, unsignedB);
                 case 0x6f: return signedA % signedB;
-                default: return Long.remainderUnsigned(unsignedA, unsignedB); // 70
+                default: return unsignedA - unsignedQuotient(unsignedA, unsignedB) * unsignedB; // 70
             }
+        }
+
+        /** The quotient of unsigned numbers of 64 bits, b not being 0. */
+        private static long unsignedQuotient(long a, long b) {
+            if (b < 0L) {
+                // From 2 to the 63 on, twice b is beyond every a.
+                return Long.compareUnsigned(a, b) < 0 ? 0L : 1L;
+            }
+            // Java divides signed numbers alone; half of a is never negative, and costs the quotient 1 at most.
+            long quotient = (a >>> 1) / b << 1;
+            long rest = a - quotient * b;
+            return Long.compareUnsigned(rest, b) < 0 ? quotient : quotient + 1L;
         }
 
         private static long moved(int plain, int w, long a, int n) {

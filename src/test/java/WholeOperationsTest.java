@@ -7,6 +7,9 @@ public final class WholeOperationsTest {
     public static void main(String[] args) {
         rows32();
         rows64();
+        unsignedDivisionRows();
+        unsignedDivisions(32);
+        unsignedDivisions(64);
         for (int w = 32; w <= 64; w += 32) {
             long[] edges = Values.wholes(w);
             for (int i = 0; i < edges.length; i++) {
@@ -81,6 +84,76 @@ public final class WholeOperationsTest {
         CHECK.due(0x88, Long.MIN_VALUE, 63L, 1);
         CHECK.due(0x89, Long.MIN_VALUE, 65L, 1);
         CHECK.due(0x8a, 1L, 1L, Long.MIN_VALUE);
+    }
+
+    /** Values whose highest bit is 1: as a, as b, and as both. */
+    private static void unsignedDivisionRows() {
+        CHECK.due(0x6e, 0xffffffffL, 10L, 0x19999999L);
+        CHECK.due(0x6e, 0x80000000L, 1L, 0x80000000L);
+        CHECK.due(0x6e, 0x7fffffffL, 0x80000000L, 0);
+        CHECK.due(0x6e, 0xffffffffL, 0x80000000L, 1);
+        CHECK.due(0x6e, 0xfffffffeL, 0xffffffffL, 0);
+        CHECK.due(0x6e, 0xffffffffL, 0xffffffffL, 1);
+        CHECK.due(0x6e, 0xffffffffL, 0L, Check.DIVISION);
+        CHECK.due(0x6e, 0x80000000L, 0xffffffff00000000L, Check.DIVISION);
+        CHECK.due(0x70, 0x80000000L, 3L, 2);
+        CHECK.due(0x70, 0x7fffffffL, 0x80000000L, 0x7fffffffL);
+        CHECK.due(0x70, 0xffffffffL, 0x80000000L, 0x7fffffffL);
+        CHECK.due(0x70, 0xfffffffeL, 0xffffffffL, 0xfffffffeL);
+        CHECK.due(0x70, 0xffffffffL, 0xffffffffL, 0);
+        CHECK.due(0x70, 0xffffffffL, 0L, Check.DIVISION);
+        CHECK.due(0x70, 0x80000000L, 0xffffffff00000000L, Check.DIVISION);
+        CHECK.due(0x80, -1L, 1L, -1);
+        CHECK.due(0x80, -1L, 10L, 0x1999999999999999L);
+        CHECK.due(0x80, -1L, Long.MAX_VALUE, 2);
+        CHECK.due(0x80, -3L, Long.MAX_VALUE, 1);
+        CHECK.due(0x80, Long.MIN_VALUE, 1L, Long.MIN_VALUE);
+        CHECK.due(0x80, Long.MAX_VALUE, Long.MIN_VALUE, 0);
+        CHECK.due(0x80, -1L, Long.MIN_VALUE, 1);
+        CHECK.due(0x80, -2L, -1L, 0);
+        CHECK.due(0x80, -1L, -1L, 1);
+        CHECK.due(0x80, -1L, 0L, Check.DIVISION);
+        CHECK.due(0x82, Long.MIN_VALUE, 3L, 2);
+        CHECK.due(0x82, -1L, Long.MAX_VALUE, 1);
+        CHECK.due(0x82, -3L, Long.MAX_VALUE, 0x7ffffffffffffffeL);
+        CHECK.due(0x82, Long.MAX_VALUE, Long.MIN_VALUE, Long.MAX_VALUE);
+        CHECK.due(0x82, -1L, Long.MIN_VALUE, Long.MAX_VALUE);
+        CHECK.due(0x82, -2L, -1L, -2);
+        CHECK.due(0x82, -1L, -1L, 0);
+        CHECK.due(0x82, -1L, 0L, Check.DIVISION);
+    }
+
+    private static void unsignedDivisions(int w) {
+        long highest = 1L << (w - 1);
+        long[] edges = Values.wholes(w);
+        for (long a : edges) {
+            for (long b : edges) {
+                if (((a | b) & highest) != 0L) {
+                    unsignedDivision(w, a, b);
+                }
+            }
+        }
+        Values values = new Values(w + 1);
+        for (int i = 0; i < 20000; i++) {
+            long a = values.any();
+            long b = Values.low(w, values.any());
+            unsignedDivision(w, a | highest, b >>> values.below(w));
+            unsignedDivision(w, a >>> values.below(w), b | highest);
+            unsignedDivision(w, a | highest, b | highest);
+            // Near to multiples of b, where a quotient that is 1 too small or too great would show.
+            long c = b >>> values.below(w) | 1L;
+            long multiple = Long.divideUnsigned(Values.low(w, -1L), c) * c;
+            unsignedDivision(w, multiple, c);
+            unsignedDivision(w, multiple - 1L, c);
+            unsignedDivision(w, multiple - c, c);
+        }
+    }
+
+    private static void unsignedDivision(int w, long a, long b) {
+        int quotient = w == 32 ? 0x6e : 0x80;
+        int rest = w == 32 ? 0x70 : 0x82;
+        CHECK.due(quotient, a, b, calculated(7, w, a, b));
+        CHECK.due(rest, a, b, calculated(9, w, a, b));
     }
 
     private static void all(int w, long a, long b) {
