@@ -89,24 +89,8 @@ public final class LatestAnswerTest {
             for (int i = 0; i < 200; i++) {
                 long a = values.any() >> values.below(64);
                 long b = values.any() >> values.below(64);
-                String due = Check.run(operation, a, b);
-                chain("next", operation, a, b, due);
-                chain("into", operation, a, b, due);
-                chain("run", operation, a, b, due);
+                CHECK.everyWay(operation, a, b, Check.run(operation, a, b));
             }
         }
-    }
-
-    private static void chain(String way, int operation, long a, long b, String due) {
-        BitArithmetic x = new BitArithmetic();
-        long before = way.equals("into") ? b : a;
-        Check.run(x, 0xbd, before, 0L);
-        String call = way + "(" + Integer.toHexString(operation) + ") of " + Check.hex(a) + ", " + Check.hex(b);
-        switch (way) {
-            case "next": CHECK.same(call, Check.next(x, operation, b), due); break;
-            case "into": CHECK.same(call, Check.into(x, operation, a), due); break;
-            default: CHECK.same(call, Check.run(x, operation, a, b), due); break;
-        }
-        CHECK.same("latest after " + call, Check.hex(x.latest()), due.startsWith("throws.") ? Check.hex(before) : due);
     }
 }
