@@ -133,12 +133,15 @@ public final class ConversionEdgesTest {
     }
 
     private static void cutTo0(Width x, int[] operations) {
-        long[] amounts = {0L, x.smallest(), x.greatestWithExponent0(), x.smallestWithExponent1(), x.power(-x.f - 1),
-            x.power(-x.f), x.power(-63), x.power(-64), x.power(-65), x.half(), x.one() - 1L};
+        long[] amounts = {0L, x.greatestWithExponent0(), x.one() - 1L};
         for (int operation : operations) {
             for (long a : amounts) {
                 alone(operation, a, 0L);
                 alone(operation, x.minus(a), 0L);
+            }
+            for (int n = -1; n >= 1 - x.b - x.f; n--) {
+                alone(operation, x.power(n), 0L);
+                alone(operation, x.minus(x.power(n)), 0L);
             }
         }
     }

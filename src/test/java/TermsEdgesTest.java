@@ -340,6 +340,58 @@ public final class TermsEdgesTest {
         CHECK.everyWayAlone(0xb6, Width.OF_64.power(-148) | 3L << 50, 4);
     }
 
+    /** 2 to the n, and 1 and half a unit of that: the middle of two floats, and a little above and below it. */
+    static void theFloatWhoseNumberIsNearestToIt_sumsBesideTheMiddle() {
+        for (Width x : Width.BOTH) {
+            for (int n = 1; n <= x.f; n++) {
+                long half = 1L << (n - 1);
+                long below = x.power(n) + (1L << (x.f - n));
+                bothSigns(x, 0x92, x.power(n), x.one() + half, below + (below & 1L));
+                for (long less = 1L; less < half; less <<= 1) {
+                    bothSigns(x, 0x92, x.power(n), x.one() + half - less, below);
+                    bothSigns(x, 0x92, x.power(n), x.one() + half + less, below + 1L);
+                    bothSigns(x, 0x92, x.power(n), x.one() + half + (less | 1L), below + 1L);
+                }
+            }
+        }
+    }
+
+    static void theFloatWhoseNumberIsNearestToIt_sumsWithLessThanHalfAUnit() {
+        for (Width x : Width.BOTH) {
+            for (int n = x.f + 2; n <= x.b + x.f - 1; n++) {
+                bothSigns(x, 0x92, x.oneAndAHalf(), x.power(-n), x.oneAndAHalf());
+                bothSigns(x, 0x93, x.oneAndAHalf(), x.power(-n), x.oneAndAHalf());
+                bothSigns(x, 0x92, x.power(-n), x.oneAndAHalf(), x.oneAndAHalf());
+            }
+            bothSigns(x, 0x92, x.greatest(), x.smallest(), x.greatest());
+            bothSigns(x, 0x93, x.greatest(), x.smallest(), x.greatest());
+        }
+    }
+
+    /** With i + j = F + 1, the product of 1 + 2 to the -i and 1 + 2 to the -j is the middle of two floats. */
+    static void theFloatWhoseNumberIsNearestToIt_productsBesideTheMiddle() {
+        for (Width x : Width.BOTH) {
+            for (int i = 1; i <= x.f; i++) {
+                long a = x.one() + (1L << (x.f - i));
+                long b = x.one() + (1L << (i - 1));
+                long below = a + b - x.one();
+                bothSignsOfA(x, 0x94, a, b, below + (below & 1L));
+                // One bit more in a, and its last one too: as many units more, and a little above the middle.
+                for (long more = 1L; more < 1L << (x.f - i - 1); more <<= 1) {
+                    aboveTheMiddle(x, a + more, b, below + more);
+                    aboveTheMiddle(x, a + (more | 1L), b, below + (more | 1L));
+                }
+            }
+        }
+    }
+
+    private static void aboveTheMiddle(Width x, long a, long b, long below) {
+        // From 2 on the unit is another one.
+        if (below + 1L < x.power(1)) {
+            bothSignsOfA(x, 0x94, a, b, below + 1L);
+        }
+    }
+
     static void atLeast2ToTheBPlus1Less2ToTheBLessFLess1IsInfinite() {
         for (Width x : Width.BOTH) {
             long halfUnit = x.power(x.b - x.f - 1);
