@@ -373,10 +373,11 @@ public final class BitArithmetic {
 
         /** The highest bit of the rest is worth half of the lowest one that is kept. */
         private static long nearest(long kept, long rest) {
-            if (rest == Long.MIN_VALUE) {
-                return kept + (kept & 1L);
+            if (rest >= 0L) {
+                return kept;
             }
-            return rest < 0L ? kept + 1L : kept;
+            boolean isHalf = rest << 1 == 0L;
+            return isHalf ? kept + (kept & 1L) : kept + 1L;
         }
     }
 

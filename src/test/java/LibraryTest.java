@@ -6,13 +6,15 @@ import java.util.TreeSet;
 import java.util.regex.Matcher;
 import java.util.regex.Pattern;
 
-/** Rule 4 of ../shared/LANGUAGE.md: what the program uses of the library. A new member is weighed, then added here. */
+/**
+ * Rule 4 of ../shared/LANGUAGE.md: what the program uses of the library. The rule lists static functions and no
+ * constants (such as Long.MIN_VALUE), so none is here. A new member is weighed, then added.
+ */
 public final class LibraryTest {
     private static final Check CHECK = new Check();
 
-    private static final Set<String> WEIGHED = Set.of("Integer.rotateLeft", "Long.MIN_VALUE", "Long.bitCount",
-        "Long.compareUnsigned", "Long.numberOfLeadingZeros", "Long.numberOfTrailingZeros", "Long.rotateLeft", "Math.max",
-        "Math.multiplyHigh");
+    private static final Set<String> WEIGHED = Set.of("Integer.rotateLeft", "Long.bitCount", "Long.compareUnsigned",
+        "Long.numberOfLeadingZeros", "Long.numberOfTrailingZeros", "Long.rotateLeft", "Math.max", "Math.multiplyHigh");
 
     public static void main(String[] args) throws IOException {
         String program = Files.readString(Path.of("src/main/java/BitArithmetic.java"));
